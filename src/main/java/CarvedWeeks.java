@@ -24,8 +24,7 @@ public final class CarvedWeeks {
     private static final int SKIN_HOURS = 1, SKIN_BELLS = 2;
     private static final int NOBODY = -1, NO_MARK = -1;
 
-    private final Table text;
-    private final Reader reader;
+    private final Text text;
     private final Shelf past;
     private final Shelf kept;
     private final Week now;
@@ -36,8 +35,7 @@ public final class CarvedWeeks {
     private Town draft;
 
     public CarvedWeeks() {
-        text = new Table(MOST_LETTERS, 1);
-        reader = new Reader(text);
+        text = new Text();
         past = new Shelf(MOST_UNDONE);
         kept = new Shelf(MOST_KEPT);
         now = new Week();
@@ -45,12 +43,12 @@ public final class CarvedWeeks {
         laid = new Town();
         draft = new Town();
         for (int i = 0; i < FIRST_TEXT.length(); i++) {
-            text.add(FIRST_TEXT.charAt(i), 0, 0);
+            text.letters.add(FIRST_TEXT.charAt(i), 0, 0);
         }
-        reader.readText(laid);
+        text.readInto(laid);
         laid.findWorlds();
         now.begin(laid);
-        text.clear();
+        text.letters.clear();
     }
 
     // ---- towns
@@ -59,21 +57,21 @@ public final class CarvedWeeks {
         if (letter < 32 || letter > 126) {
             return BAD;
         }
-        return text.add(letter, 0, 0) ? text.size() : FULL;
+        return text.letters.add(letter, 0, 0) ? text.letters.size() : FULL;
     }
 
     public int wipe() {
-        int letters = text.size();
-        text.clear();
-        return letters;
+        int length = text.letters.size();
+        text.letters.clear();
+        return length;
     }
 
     public int fault() {
-        return reader.readText(draft);
+        return text.readInto(draft);
     }
 
     public int lay() {
-        if (reader.readText(draft) != NONE || draft.persons.size() < 1 || draft.stones.size() < 1
+        if (text.readInto(draft) != NONE || draft.persons.size() < 1 || draft.stones.size() < 1
                 || !draft.isWorld(draft.soAtFirst)) {
             return NO;
         }
@@ -270,7 +268,7 @@ public final class CarvedWeeks {
         if (saying == NONE || what == 0) {
             return saying;
         }
-        return wrongByLie(i, h, saying);
+        return wrongByLie(i, h, saying, now.readBy(laid, h));
     }
 
     public int safe(int h) {
@@ -434,7 +432,7 @@ public final class CarvedWeeks {
             case 10:
                 return kept.size();
             case 11:
-                return text.size();
+                return text.letters.size();
             default:
                 return BAD;
         }
@@ -494,13 +492,14 @@ public final class CarvedWeeks {
         return laid.allFacts();
     }
 
-    /** The SAYING (what = 0) of a LIE, or NONE. */
+    /** The SAYING of a LIE, or NONE. */
     private int bestLie(int i, int h) {
-        int most = wrongFrom(now, now.readBy(laid, h));
+        int read = now.readBy(laid, h);
+        int most = wrongFrom(now, read);
         int found = NONE;
         for (int f = 0; f < laid.facts; f++) {
             int saying = opposite(trueSaying(f, now.truth));
-            int wrong = wrongByLie(i, h, saying);
+            int wrong = wrongByLie(i, h, saying, read);
             if (wrong > most) {
                 most = wrong;
                 found = saying;
@@ -509,12 +508,9 @@ public final class CarvedWeeks {
         return found;
     }
 
-    private int wrongByLie(int i, int h, int saying) {
-        int read = now.readBy(laid, h);
-        if (now.handsOf(laid, saying, i) >= h) {
-            read |= 1 << saying;
-        }
-        return wrongFrom(now, read);
+    private int wrongByLie(int i, int h, int saying, int readNow) {
+        boolean read = now.handsOf(laid, saying, i) >= h;
+        return wrongFrom(now, read ? readNow | 1 << saying : readNow);
     }
 
     /** How many sets of that most marks stand: each is all that is so in a WORLD, counted at the first such one. */
@@ -669,7 +665,6 @@ public final class CarvedWeeks {
         }
 
         void findWorlds() {
-            worlds.clear();
             for (int set = 0; set <= allFacts(); set++) {
                 if (isWorld(set)) {
                     worlds.add(set, sayingsIn(set), 0);
@@ -748,18 +743,15 @@ public final class CarvedWeeks {
         }
     }
 
-    /** Reads a text item by item into a town. */
-    private static final class Reader {
+    /** THE TEXT, which can be read item by item into a town. */
+    private static final class Text {
+        private final Table letters = new Table(MOST_LETTERS, 1);
+        /** Those of the item that is being read. */
         private final Table numbers = new Table(3, 1);
-        private final Table letters;
         private int place;
 
-        Reader(Table letters) {
-            this.letters = letters;
-        }
-
         /** FAULT, or NONE; the town is then all that the text tells. */
-        int readText(Town town) {
+        int readInto(Town town) {
             place = 0;
             town.clear();
             for (int item = 0; item < MOST_LETTERS && place < letters.size(); item++) {
@@ -911,7 +903,7 @@ public final class CarvedWeeks {
             }
         }
 
-        /** A week of a YEAR, with its BELL. */
+        /** A week of a YEAR, with its BELL; the twelfth mark fills the table, which then takes no more. */
         void live(Town town, int draw) {
             int worlds = town.worlds.size();
             int persons = town.persons.size();

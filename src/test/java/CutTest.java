@@ -29,6 +29,7 @@ public final class CutTest {
         due("least(4)", x.least(4), BAD);
         due("least(-1)", x.least(-1), BAD);
         due("by laws alone", Check.laid("f1;i0,1;p9,0;s3,1,0;").least(1), 0);
+        due("by laws alone, so", Check.laid("f1;i1,0;d0;p9,0;s3,1,0;").least(1), 0);
         due("a late one for all", Check.laid("f4;i0,2;i2,4;i4,6;p9,0;s3,1,0;").least(15), 8);
         due("all of eight", Check.laid("f8;p9,0;s3,1,0;").least(255), 255);
         due("fewest ahead of lowest", Check.laid("f3;i0,4;i2,4;p9,0;s3,1,0;").least(3), 4);

@@ -61,6 +61,10 @@ public final class DisagreeTest {
         never.carve(0, 0, 0, false);
         due("one that can never be", never.stand(0), 0);
         due("so it is the empty set", never.stand(1), 1);
+        CarvedWeeks always = Check.laid("f1;i1,0;d0;p9,0;s6,1,0;");
+        always.carve(0, 0, 0, false);
+        due("where the set of no facts is no world", always.stand(0), 0);
+        due("nor counts", always.stand(1), 1);
         CarvedWeeks some = Check.laid("f3;p9,0;s6,1,0;");
         some.carve(0, 0, 0, true);
         due("in many worlds, but one set", some.stand(1), 1);

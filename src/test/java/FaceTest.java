@@ -2,6 +2,7 @@ import java.lang.reflect.Constructor;
 import java.lang.reflect.Field;
 import java.lang.reflect.Method;
 import java.lang.reflect.Modifier;
+import java.util.Arrays;
 import java.util.Set;
 import java.util.TreeSet;
 
@@ -53,6 +54,10 @@ public final class FaceTest {
     }
 
     private static void nothingElse() {
+        for (Method method : CarvedWeeks.class.getDeclaredMethods()) {
+            CHECK.holds(method + " bears a name of its own", !Modifier.isPrivate(method.getModifiers())
+                    || Arrays.stream(FACE).noneMatch(face -> face.contains(" " + method.getName() + "(")));
+        }
         CHECK.due("the class is public and final", CarvedWeeks.class.getModifiers(), Modifier.PUBLIC | Modifier.FINAL);
         Set<String> constants = Set.of("BAD", "NO", "FULL", "NONE");
         for (Field field : CarvedWeeks.class.getDeclaredFields()) {

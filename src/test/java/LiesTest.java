@@ -41,6 +41,9 @@ public final class LiesTest {
         due("how much", x.lie(0, 2, 1), 1);
         due("the same hand again", x.lie(1, 2, 0), NONE);
         due("not safe, for one of them", x.safe(2), 0);
+        CarvedWeeks lone = Check.laid("f1;p9,0;s1,1,0;");
+        lone.carve(0, 0, 0, false);
+        due("safe where nobody else can cut", lone.safe(2), 1);
     }
 
     private static void lieAtNoArch() {

@@ -9,6 +9,8 @@ public final class RoomsTest {
         worth();
         two();
         year();
+        yearOfOne();
+        yearFillsTwelve();
         yearChangesNothing();
         yearRefused();
         keepAndBack();
@@ -97,6 +99,29 @@ public final class RoomsTest {
         worn.carve(0, 0, 1, false);
         worn.bell();
         due("bells heard ahead of the year count", worn.year(0, 1, 1), 1);
+    }
+
+    /** Draws of z = 1: 22803, 54100, 12723, 29714, 39552: worlds 3, 4, 3, 2, 0, and in week 0 fact 1 is cut. */
+    private static void yearOfOne() {
+        CarvedWeeks x = Check.laid("f3;p9,0;s1,1,0;");
+        int[] bells = {1, 1, 2, 3, 3};
+        for (int n = 1; n <= bells.length; n++) {
+            due("year(1, " + n + ", 0)", x.year(1, n, 0), bells[n - 1]);
+            due("year(1, " + n + ", 1)", x.year(1, n, 1), 1);
+        }
+        CarvedWeeks lied = Check.laid("f2;i0,2;p9,0;p9,5;s2,1,0;");
+        lied.carve(0, 0, 1, false);
+        due("WRONG by world 0", lied.year(1, 1, 0), 0);
+        due("one fact, one person, one stone", Check.laid("f1;p0,0;s1,1,0;").year(0, 1, 1), 1);
+        due("one world", Check.laid("f1;i1,0;d0;p0,0;s1,1,0;").year(0, 1, 1), 1);
+    }
+
+    private static void yearFillsTwelve() {
+        CarvedWeeks x = Check.laid("f1;i1,0;d0;p40,0;s6,1,0;s6,1,0;s6,1,0;");
+        due("twelve marks at most", x.year(3, 60, 1), 12);
+        CarvedWeeks worn = Check.laid("f1;i1,0;d0;p40,0;s6,1,1;");
+        due("each wears off at once", worn.year(3, 60, 1), 0);
+        due("nothing is wrong", worn.year(3, 60, 0), 60);
     }
 
     private static void yearChangesNothing() {

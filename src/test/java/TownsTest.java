@@ -137,7 +137,8 @@ public final class TownsTest {
 
     private static void faultsOfForm() {
         String[] whole = {"x1;", ";", " f3;", "F3;", "f;", "f3", "f", "f3,", "f3,1;", "d;", "i1;", "i1,1", "p,1;", "p1,;",
-                "p1.1;", "p-1,1;", "p1,1,1;", "s1,1;", "s1,1,1,1;", "p1 ,1;", "p001,1;", "3;", "i0;0;"};
+                "p1.1;", "p-1,1;", "p1,1,1;", "s1,1;", "s1,1,1,1;", "p1 ,1;", "p001,1;", "3;", "i0;0;", "p:,1;", "p1:,1;", "p/,1;",
+            "p1,1:"};
         for (String text : whole) {
             fault(text, 0);
         }

@@ -161,19 +161,21 @@ public final class WeeksTest {
     }
 
     private static void undoLastEight() {
-        CarvedWeeks x = Check.laid("f4;p4,0;s6,2,0;");
-        for (int set = 1; set <= 11; set++) {
-            x.deed(set);
-            due("can be undone", x.count(9), Math.min(set, 8));
+        for (int deeds = 9; deeds <= 30; deeds++) {
+            CarvedWeeks x = Check.laid("f5;p4,0;s6,2,0;");
+            for (int set = 1; set <= deeds; set++) {
+                x.deed(set);
+                due("can be undone", x.count(9), Math.min(set, 8));
+            }
+            for (int left = 7; left >= 0; left--) {
+                due("undo", x.undo(), left);
+                due("truth", x.count(6), deeds - 8 + left);
+            }
+            due("no more than eight", x.undo(), NO);
+            due("truth stays", x.count(6), deeds - 8);
+            x.deed(0);
+            due("undo of a later deed", x.undo(), 0);
+            due("its truth", x.count(6), deeds - 8);
         }
-        for (int set = 10; set >= 3; set--) {
-            due("undo", x.undo(), set - 3);
-            due("truth", x.count(6), set);
-        }
-        due("no more than eight", x.undo(), NO);
-        due("truth stays", x.count(6), 3);
-        x.deed(5);
-        due("undo of a later deed", x.undo(), 0);
-        due("its truth", x.count(6), 3);
     }
 }
