@@ -1,6 +1,7 @@
 /** Compares answers with those that are due, prints the others, and ends the test with exit code 1 if there was one. */
 final class Check {
     private final String test;
+    private String sentence = "";
     private int passed;
     private int failed;
 
@@ -8,12 +9,17 @@ final class Check {
         this.test = test;
     }
 
+    /** The document's words by which the next answers are due: they are told with each that is not. */
+    void sentence(String words) {
+        sentence = " (\"" + words + "\")";
+    }
+
     void due(String call, long got, long want) {
         if (got == want) {
             passed++;
         } else {
             failed++;
-            System.out.println(test + ": " + call + " answered " + got + ", due is " + want);
+            System.out.println(test + ": " + call + " answered " + got + ", due is " + want + sentence);
         }
     }
 
@@ -21,9 +27,17 @@ final class Check {
         due(what, so ? 1 : 0, 1);
     }
 
+    /** For answers of many calls at once, as Sight tells them. */
+    void alike(String what, String got, String want) {
+        if (!got.equals(want)) {
+            System.out.println("got " + got + "\ndue " + want);
+        }
+        holds(what, got.equals(want));
+    }
+
     void end() {
         System.out.println(test + ": " + passed + " passed, " + failed + " failed");
-        if (failed != 0) {
+        if (failed != 0 || passed == 0) {
             System.exit(1);
         }
     }

@@ -35,8 +35,12 @@ public final class ModelTest {
         }
     }
 
+    /** What is called later than CALLS is free to answer anything. */
     private void due(String call, long got, long want) {
         calls++;
+        if (calls > CALLS) {
+            return;
+        }
         CHECK.due("run " + run + ", call " + calls + ": " + call, got, want);
     }
 
